@@ -366,6 +366,7 @@ public final class SingerQueue {
         return yes ? 1 : 0;
     }
 
+    /** Copies whole rows, so that the places behind the last one in use stay 0 for those who come later. */
     private static void copyRow(int[] from, int[] to) {
         System.arraycopy(from, 0, to, 0, Math.min(from.length, to.length));
     }
@@ -405,18 +406,15 @@ public final class SingerQueue {
             return isIn(there, singer);
         }
 
-        void setThere(int singer, boolean isThere) {
+        void setThere(int singer, boolean present) {
             int bit = 1 << singer;
-            there = isThere ? there | bit : there & ~bit;
+            there = present ? there | bit : there & ~bit;
         }
 
         int add(int low, int high) {
             int number = size;
             lowest[number] = low;
             highest[number] = high;
-            // The place may still hold what a singer sang whose coming was undone.
-            turns[number] = 0;
-            minutes[number] = 0;
             setThere(number, true);
             size++;
             return number;
@@ -460,7 +458,6 @@ public final class SingerQueue {
             lowest[number] = low;
             highest[number] = high;
             length[number] = minutes;
-            timesSung[number] = 0;
             size++;
             return number;
         }

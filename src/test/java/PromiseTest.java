@@ -37,6 +37,7 @@ public final class PromiseTest {
         promise22Fault();
         promise23Undo();
         promise23UndoEachChange();
+        promise23NewOnesAfterUndo();
         promise24Save();
         promise25Restore();
         constants();
@@ -554,6 +555,12 @@ public final class PromiseTest {
         for (int what : new int[] {-1, 5, LEAST, GREATEST}) {
             due("song 0, " + what, q.ofSong(0, what), BAD_VALUE);
         }
+        SingerQueue low = new SingerQueue();
+        low.singer(0, 10);
+        low.song(50, 60, 1);
+        due("nobody has a key", low.ofSong(0, 3), 0);
+        low.singer(50, 60);
+        due("the other one has", low.ofSong(0, 3), 0b10);
         q.leave(1, true);
         q.wish(0, 3, 0);
         q.wish(0, NONE, 0);
@@ -654,6 +661,22 @@ public final class PromiseTest {
         due("nothing changed", q.of(1, 3), 0);
         due("nothing changed", q.count(8), 1);
         promise15LongQueue();
+        promise15TurnsAheadCount();
+    }
+
+    /** The turns that are looked ahead count, those of each singer. */
+    private static void promise15TurnsAheadCount() {
+        for (int singer = 0; singer < 12; singer++) {
+            SingerQueue q = evening(12, 1);
+            int second = (singer + 1) % 12;
+            int third = (singer + 2) % 12;
+            q.wish(singer, NONE, 0);
+            q.wish(second, NONE, 0);
+            q.wish(singer, NONE, 0);
+            q.wish(third, NONE, 0);
+            due("the second turn of " + singer, q.turnOf(2, 0), 3);
+            due("the turn of " + third, q.turnOf(3, 0), 2);
+        }
     }
 
     private static void promise15LongQueue() {
@@ -883,6 +906,21 @@ public final class PromiseTest {
         fault(fifteen.substring(0, 56) + "0:16", 59);
         fault(fifteen.substring(0, 56) + "0+1:", 60);
         SingerQueue q = evening(1, 1);
+        String[] before = {"1:1;1:1", "1+1:1;", "11:11;11:1", "11+11:11"};
+        for (String text : before) {
+            for (String then : new String[] {"1", "1:", "1+", "1:1;", "11"}) {
+                write(q, text);
+                q.wipe();
+                write(q, then);
+                due("fault of " + then + " after " + text, q.fault(), then.length());
+                q.wipe();
+            }
+            write(q, text);
+            q.wipe();
+            write(q, "1:1");
+            due("fault of 1:1 after " + text, q.fault(), NONE);
+            q.wipe();
+        }
         write(q, "3+3:9");
         due("who is there does not matter", q.fault(), NONE);
         due("fault is no change", q.count(10), 2);
@@ -956,6 +994,44 @@ public final class PromiseTest {
         due("songs", q.count(2), 1);
         due("the length of the other one", q.ofSong(0, 2), 3);
         due("no more", q.undo(), NOT_POSSIBLE);
+    }
+
+    /** Who comes in the place of one whose coming is undone has nothing of him. */
+    private static void promise23NewOnesAfterUndo() {
+        SingerQueue q = new SingerQueue();
+        q.singer(10, 20);
+        q.song(10, 20, 5);
+        q.wish(0, NONE, 0);
+        q.sing(1);
+        q.save(0);
+        for (int i = 3; i >= 0; i--) {
+            due("undo", q.undo(), i);
+        }
+        due("singer", q.singer(30, 40), 0);
+        due("song", q.song(31, 39, 7), 0);
+        due("turns", q.of(0, 3), 0);
+        due("minutes", q.of(0, 6), 0);
+        due("wishes", q.of(0, 5), 0);
+        due("sung", q.ofSong(0, 4), 0);
+        due("restore", q.restore(0), 0);
+        voiceAndSong(q, 10, 20, 5);
+        due("turns", q.of(0, 3), 1);
+        due("minutes", q.of(0, 6), 5);
+        due("sung", q.ofSong(0, 4), 1);
+        due("undo restore", q.undo(), 2);
+        due("lowest", q.of(0, 0), 30);
+        due("length", q.ofSong(0, 2), 7);
+        due("turns", q.of(0, 3), 0);
+        due("restore", q.restore(0), 0);
+        voiceAndSong(q, 10, 20, 5);
+    }
+
+    private static void voiceAndSong(SingerQueue q, int low, int high, int length) {
+        due("lowest tone of the voice", q.of(0, 0), low);
+        due("highest tone of the voice", q.of(0, 1), high);
+        due("lowest tone of the song", q.ofSong(0, 0), low);
+        due("highest tone of the song", q.ofSong(0, 1), high);
+        due("length of the song", q.ofSong(0, 2), length);
     }
 
     private static void promise24Save() {
