@@ -755,7 +755,7 @@ public final class SingerQueue {
         int faultOn(Pad pad) {
             at = 0;
             size = 0;
-            while (size < MOST_WISHES_ON_PAD) {
+            for (int i = 0; i < MOST_WISHES_ON_PAD; i++) {
                 if (!readWish(pad)) {
                     return at;
                 }

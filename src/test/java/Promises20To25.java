@@ -727,6 +727,36 @@ final class Promises20To25 extends Checks {
         }, Queue::undo, NOT_POSSIBLE);
     }
 
+    /** Another singer and another song in the places of those that are saved in slot 0. */
+    private static Queue othersInTheirPlaces() {
+        Queue q = new Queue();
+        q.singer(10, 20);
+        q.song(10, 20, 5);
+        q.save(0);
+        q.undo();
+        q.undo();
+        q.singer(30, 40);
+        q.song(31, 39, 7);
+        return q;
+    }
+
+    private static void voiceAndSongAre(Queue q, int[] voice, int[] song) {
+        due(q.of(0, 0), voice[0]);
+        due(q.of(0, 1), voice[1]);
+        for (int what = 0; what <= 2; what++) {
+            due(q.ofSong(0, what), song[what]);
+        }
+    }
+
+    @Holds(promise = 23, says = "Undoes the latest change: <everything> except the pad, the slots and the history <is as it was before it>.")
+    static void undoBringsBackVoicesAndSongs() {
+        Queue q = othersInTheirPlaces();
+        voiceAndSongAre(q, new int[] {30, 40}, new int[] {31, 39, 7});
+        q.restore(0);
+        due(q.undo(), 2);
+        voiceAndSongAre(q, new int[] {30, 40}, new int[] {31, 39, 7});
+    }
+
     // ---- promise 24: save
 
     @Holds(promise = 24, says = "<Saves everything except the pad>, the history and the slots <in a slot>, and overwrites what was saved there.")
@@ -992,5 +1022,19 @@ final class Promises20To25 extends Checks {
         refused(Evenings::nothing, q -> q.restore(2), BAD_VALUE);
         refused(Evenings::nothing, q -> q.restore(-1), BAD_VALUE);
         refused(Evenings::busy, q -> q.restore(3), BAD_VALUE);
+    }
+
+    @Holds(promise = 25, says = "<Restores what was saved last in a slot>, which keeps it.")
+    static void voicesAndSongsAreRestored() {
+        Queue q = othersInTheirPlaces();
+        for (int i = 0; i < 2; i++) {
+            due(q.restore(0), 0);
+            voiceAndSongAre(q, new int[] {10, 20}, new int[] {10, 20, 5});
+            q.undo();
+            q.save(1);
+            q.restore(0);
+            q.restore(1);
+            voiceAndSongAre(q, new int[] {30, 40}, new int[] {31, 39, 7});
+        }
     }
 }
